@@ -833,7 +833,7 @@ public final class SnapshotVolumes {
         }
 
         boolean hasVolume(int volume) {
-            return volume >= 0 && volume < MOST_VOLUMES && has(LIVE + volume);
+            return volume >= 0 && volume < MOST_VOLUMES && contains(there, LIVE + volume);
         }
 
         int snapshotSet() {
@@ -1056,6 +1056,8 @@ public final class SnapshotVolumes {
     private static final class Planner {
         // Above any bit set of snapshots.
         private static final int UNIT = 1 << MOST_SNAPSHOTS;
+        // Below the worth of any set.
+        private static final int LEAST = -UNIT;
 
         private final int[] line = new int[MOST_SNAPSHOTS];
         private int length = 0;
@@ -1092,7 +1094,7 @@ public final class SnapshotVolumes {
                 for (int n = 0; n < i; n++) {
                     best[i][n] = best[i - 1][n];
                 }
-                best[i][i] = Integer.MIN_VALUE;
+                best[i][i] = LEAST;
                 int set = 0;
                 for (int run = 1; run <= i; run++) {
                     set |= bit(line[i - run]);

@@ -209,6 +209,17 @@ public final class PromiseTest {
         due("load of a part", x.load(9), 1);
         due("volumes", x.count(0), 1);
 
+        x = loaded("set pool 50;" + FAMILY);
+        x.setQuota(0, 1);
+        due("a second load", load(x, "set pool 60;volume b;write b 11 9;snap b t;hold t;"), 5);
+        due("POOL", x.getSetting(SnapshotVolumes.POOL), 60);
+        due("quota", x.volumeNumber(0, 2), 0);
+        due("held", x.hold(0, false), 0);
+        due("blocks", x.count(2), 1);
+        due("an error", load(x, "set pool 70;set pool 70;"), DUPLICATE);
+        due("a third load", load(x, "set pool 80;volume b;write b 0 1;trim b 11;snap b t;hold t;"), 6);
+        due("held", x.hold(0, false), 0);
+
         promise = 4;
         x = new SnapshotVolumes();
         load(x, "  volume 3;");
@@ -320,6 +331,10 @@ public final class PromiseTest {
         error("set pool 9;volume a;write a 0 9;snap a s;write a 0 1;", FULL_ERROR, 51);
         error("volume a;write a 0 9;set pool 5;write a 0 6;", FULL_ERROR, 42);
         good("volume a;write a 0 9;set pool 5;write a 0 5;", 4);
+        good("volume a;write a 11 9;trim a 11;", 3);
+        error("volume a;snap a s;snap a t;hold s;hold t;hold s;", DUPLICATE, 46);
+        error("xet pool 1;", SYNTAX, 0);
+        error("set xool 1;", SYNTAX, 4);
         SnapshotVolumes x = loaded("set pool 20;set clones 1;volume a;trim a 3;write a 3 9;trim a 3;write a 3 8;snap a s;hold s;");
         due("used", x.used(), 8);
         due("time", x.count(3), 3);
@@ -341,7 +356,8 @@ public final class PromiseTest {
         due("count(6)", x.count(6), BAD);
         x.destroyVolume(1);
         x.destroy(0);
-        int[] then = {2, 2, 2, 6, 1, 1};
+        x.newVolume();
+        int[] then = {3, 2, 2, 6, 2, 1};
         for (int what = 0; what < 6; what++) {
             due("count(" + what + ") behind destroying", x.count(what), then[what]);
         }
@@ -519,6 +535,13 @@ public final class PromiseTest {
             due("common(" + common[0] + ", " + common[1] + ")", x.common(common[0], common[1]), common[2]);
             due("common(" + common[1] + ", " + common[0] + ")", x.common(common[1], common[0]), common[2]);
         }
+        SnapshotVolumes alone = new SnapshotVolumes();
+        alone.newVolume();
+        for (int v = 1; v < 6; v++) {
+            alone.newVolume();
+            due("common of a live state alone", alone.common(16 + v, 16 + v), 16 + v);
+            due("common of two alone", alone.common(16 + v, 15 + v), NONE);
+        }
         noVersion("common", x, w -> x10.common(w, 0));
         noVersion("common", x, w -> x10.common(0, w));
     }
@@ -551,6 +574,9 @@ public final class PromiseTest {
         due("sameAt(16, 1)", x.sameAt(16, 1), 1 << 16);
         due("sameAt(0, 2)", x.sameAt(0, 2), 3 | 1 << 16);
         due("sameAt(0, 11)", x.sameAt(0, 11), 3 | 3 << 16);
+        x.newVolume();
+        due("sameAt(18, 0), three others", x.sameAt(18, 0), 1 << 18);
+        due("sameAt(18, 1)", x.sameAt(18, 1), 5 << 16);
         noVersion("sameAt", x, w -> x10.sameAt(w, 0));
         noAddress("sameAt", x, a -> x10.sameAt(0, a));
 
@@ -561,6 +587,9 @@ public final class PromiseTest {
         x.trim(1, 2);
         x.write(1, 0, 1);
         due("besideOrigin(1) with a snapshot", x.besideOrigin(1), 6 + 1);
+        x.newVolume();
+        x.write(2, 0, 2);
+        due("besideOrigin(2)", x.besideOrigin(2), 2);
         noVolume("besideOrigin", x, v -> x10.besideOrigin(v));
 
         promise = 22;
@@ -581,8 +610,15 @@ public final class PromiseTest {
         due("sizeOf(MIN)", x.sizeOf(Integer.MIN_VALUE), NONE);
         x.trim(1, 2);
         due("sizeOf a free block", x.sizeOf(6), NONE);
+        x.destroyVolume(1);
+        x.destroy(0);
+        due("sizeOf a free block", x.sizeOf(1), NONE);
+        due("sizeOf those behind it", x.sizeOf(2) * 10 + x.sizeOf(4), 34);
+        due("their place", x.blockAt(1, 1) * 10 + x.blockAt(1, 0), 24);
 
         promise = 24;
+        x = family();
+        x.trim(1, 2);
         int[] holders = {0, 1 | 1 << 17, 3 | 1 << 17, 0, 2 | 1 << 16, 0, 0, 0};
         for (int birth = 0; birth < holders.length; birth++) {
             due("holders(" + birth + ")", x.holders(birth), holders[birth]);
@@ -643,6 +679,9 @@ public final class PromiseTest {
         due("writtenSince(0, 1)", x.writtenSince(0, 1), 0);
         due("writtenSince(1, 0)", x.writtenSince(1, 0), 6);
         due("writtenSince(1, 1)", x.writtenSince(1, 1), 6);
+        SnapshotVolumes later = loaded("volume a;volume b;snap b s;write a 0 3;snap a t;write a 1 4;");
+        due("writtenSince(0, 0), in t, too", later.writtenSince(0, 0), 7);
+        due("writtenSince(0, 1)", later.writtenSince(0, 1), 4);
         noVolume("writtenSince", x, v -> x10.writtenSince(v, 0));
         noSnapshot("writtenSince", x, s -> x10.writtenSince(0, s));
 
@@ -735,6 +774,8 @@ public final class PromiseTest {
         String row = "volume a;write a 0 3;snap a s;write a 0 4;snap a t;write a 0 ";
         due("mostExclusive", loaded(row + "4;snap a u;trim a 0;").mostExclusive(), 1);
         due("mostExclusive", loaded(row + "5;snap a u;trim a 0;").mostExclusive(), 2);
+        due("mostExclusive, one unit", loaded("volume a;write a 0 1;snap a s;trim a 0;").mostExclusive(), 0);
+        due("mostExclusive of none", loaded("volume a;write a 0 9;").mostExclusive(), NONE);
         due("mostExclusive, held", loaded(row + "4;hold t;").mostExclusive(), 1);
     }
 
@@ -770,6 +811,16 @@ public final class PromiseTest {
         due("the lowest over two volumes", x.fewestToFree(7), 3);
         due("the lowest over two volumes", x.fewestToFree(9), 7);
         due("all over two volumes", x.fewestToFree(16), 15);
+        x = new SnapshotVolumes();
+        x.newVolume();
+        for (int s = 0; s < 16; s++) {
+            x.write(0, s % 12, 9);
+            x.take(0);
+            x.trim(0, s % 12);
+        }
+        due("all that can ever come", x.fewestToFree(144), 0xffff);
+        due("all but the highest", x.fewestToFree(130), 0x7fff);
+        due("more than there is", x.fewestToFree(145), NONE);
     }
 
     private static void writing() {
@@ -799,6 +850,14 @@ public final class PromiseTest {
         x.take(0);
         due("FULL, for the old one stays", x.write(0, 11, 2), FULL);
         due("up to POOL", x.write(0, 11, 1), 5);
+        SnapshotVolumes other = family();
+        other.setQuota(1, 15);
+        due("a new one within the quota", other.write(1, 3, 1), 7);
+        due("OVER by one", other.write(1, 4, 1), OVER);
+        due("in place of one that another has", other.write(1, 0, 5), 8);
+        due("OVER in place of one", other.write(1, 0, 6), OVER);
+        due("in the other volume", other.write(0, 0, 6), 9);
+        due("its block", other.blockAt(16, 0), 9);
 
         promise = 41;
         due("wouldWrite", x.wouldWrite(0, 11, 1), 6);
@@ -1019,6 +1078,10 @@ public final class PromiseTest {
         x.clone(2);
         due("rollBack(1), u an origin", x.rollBack(1), NOT);
         due("rollBack(2), itself an origin", x.rollBack(2), 5);
+        x = loaded("volume a;write a 0 1;snap a s;clone s b;write b 1 2;snap b t;write b 1 3;");
+        due("rollBack of a clone", x.rollBack(1), 3);
+        due("its live state", x.blockAt(17, 1) * 10 + x.blockAt(17, 0), 31);
+        due("the other live state", x.blockAt(16, 0) * 10 + x.blockAt(16, 1), 10 + NONE);
         x = loaded("volume a;write a 0 9;snap a s;trim a 0;");
         x.setSetting(SnapshotVolumes.POOL, 1);
         x.setQuota(0, 1);
