@@ -78,48 +78,13 @@ public final class PromiseTest {
         }
     }
 
-    private static int feedText(SnapshotVolumes x, String text) {
-        int length = 0;
-        for (int i = 0; i < text.length(); i += 20) {
-            int[] words = new int[5];
-            for (int k = 0; k < 20; k++) {
-                int sign = i + k < text.length() ? text.charAt(i + k) : ' ';
-                words[k / 4] = words[k / 4] << 8 | sign;
-            }
-            length = x.feed(words[0], words[1], words[2], words[3], words[4]);
-        }
-        return length;
-    }
-
-    private static int load(SnapshotVolumes x, String text) {
-        feedText(x, text);
-        return x.load(text.length());
-    }
-
-    private static SnapshotVolumes loaded(String text) {
-        SnapshotVolumes x = new SnapshotVolumes();
-        int answer = load(x, text);
-        if (answer < 0) {
-            throw new IllegalStateException(answer + " at " + x.errorPosition() + ": " + text);
-        }
-        return x;
-    }
-
     private static SnapshotVolumes family() {
-        return loaded(FAMILY);
-    }
-
-    private static int letters(String name) {
-        int code = 0;
-        for (int i = 0; i < 6; i++) {
-            code = code << 5 | (i < name.length() ? name.charAt(i) - 96 : 0);
-        }
-        return code;
+        return Pools.loaded(FAMILY);
     }
 
     private static void error(String text, int code, int position) {
         SnapshotVolumes x = new SnapshotVolumes();
-        due("load of " + text, load(x, text), code);
+        due("load of " + text, Pools.load(x, text), code);
         due("errorPosition of " + text, x.errorPosition(), position);
     }
 
@@ -127,17 +92,8 @@ public final class PromiseTest {
         error(text, statements, NONE);
     }
 
-    private static String out(SnapshotVolumes x, int volume) {
-        int length = x.writeOut(volume);
-        StringBuilder text = new StringBuilder();
-        for (int i = 0; i < length; i++) {
-            text.append((char) x.outputAt(i));
-        }
-        return text.toString();
-    }
-
     private static void dueOut(SnapshotVolumes x, int volume, String want) {
-        String got = out(x, volume);
+        String got = Pools.written(x, volume);
         due("writeOut(" + volume + "): " + got + " for " + want, got.equals(want), true);
     }
 
@@ -183,7 +139,7 @@ public final class PromiseTest {
         due("load(-1)", x.load(-1), BAD);
         due("load(1)", x.load(1), BAD);
         x.newVolume();
-        due("length of the text", feedText(x, "volume z;volume z;"), 20);
+        due("length of the text", Pools.feed(x, "volume z;volume z;"), 20);
         due("load(21)", x.load(21), BAD);
         due("load with an error", x.load(18), DUPLICATE);
         due("load empties the buffer", x.load(1), BAD);
@@ -193,7 +149,7 @@ public final class PromiseTest {
         x.setSetting(SnapshotVolumes.POOL, 7);
         x.setSetting(SnapshotVolumes.CLONES, 0);
         x.writeOut(0);
-        due("good load", load(x, "volume z;write z 3 9;"), 2);
+        due("good load", Pools.load(x, "volume z;write z 3 9;"), 2);
         due("undoCount", x.undoCount(), 0);
         due("undo", x.undo(), NONE);
         due("POOL", x.getSetting(SnapshotVolumes.POOL), 200);
@@ -205,24 +161,24 @@ public final class PromiseTest {
         due("empty load", x.load(0), 0);
         due("volumes", x.count(0), 0);
         due("time", x.count(3), 0);
-        feedText(x, "volume a;volume b;  ");
+        Pools.feed(x, "volume a;volume b;  ");
         due("load of a part", x.load(9), 1);
         due("volumes", x.count(0), 1);
 
-        x = loaded("set pool 50;" + FAMILY);
+        x = Pools.loaded("set pool 50;" + FAMILY);
         x.setQuota(0, 1);
-        due("a second load", load(x, "set pool 60;volume b;write b 11 9;snap b t;hold t;"), 5);
+        due("a second load", Pools.load(x, "set pool 60;volume b;write b 11 9;snap b t;hold t;"), 5);
         due("POOL", x.getSetting(SnapshotVolumes.POOL), 60);
         due("quota", x.volumeNumber(0, 2), 0);
         due("held", x.hold(0, false), 0);
         due("blocks", x.count(2), 1);
-        due("an error", load(x, "set pool 70;set pool 70;"), DUPLICATE);
-        due("a third load", load(x, "set pool 80;volume b;write b 0 1;trim b 11;snap b t;hold t;"), 6);
+        due("an error", Pools.load(x, "set pool 70;set pool 70;"), DUPLICATE);
+        due("a third load", Pools.load(x, "set pool 80;volume b;write b 0 1;trim b 11;snap b t;hold t;"), 6);
         due("held", x.hold(0, false), 0);
 
         promise = 4;
         x = new SnapshotVolumes();
-        load(x, "  volume 3;");
+        Pools.load(x, "  volume 3;");
         due("errorPosition", x.errorPosition(), 9);
         x.load(-1);
         due("errorPosition behind BAD_VALUE", x.errorPosition(), 9);
@@ -231,7 +187,7 @@ public final class PromiseTest {
         due("errorPosition behind undo", x.errorPosition(), 9);
         x.load(0);
         due("errorPosition behind a good load", x.errorPosition(), NONE);
-        load(x, "_");
+        Pools.load(x, "_");
         due("errorPosition at the start", x.errorPosition(), 0);
     }
 
@@ -335,7 +291,7 @@ public final class PromiseTest {
         error("volume a;snap a s;snap a t;hold s;hold t;hold s;", DUPLICATE, 46);
         error("xet pool 1;", SYNTAX, 0);
         error("set xool 1;", SYNTAX, 4);
-        SnapshotVolumes x = loaded("set pool 20;set clones 1;volume a;trim a 3;write a 3 9;trim a 3;write a 3 8;snap a s;hold s;");
+        SnapshotVolumes x = Pools.loaded("set pool 20;set clones 1;volume a;trim a 3;write a 3 9;trim a 3;write a 3 8;snap a s;hold s;");
         due("used", x.used(), 8);
         due("time", x.count(3), 3);
         due("birth", x.blockAt(16, 3), 2);
@@ -363,14 +319,14 @@ public final class PromiseTest {
         }
 
         promise = 6;
-        x = loaded("volume a;volume abcdef;volume z;snap a a;snap a zz;");
-        due("volume a", x.named(false, letters("a")), 0);
-        due("volume abcdef", x.named(false, letters("abcdef")), 1);
+        x = Pools.loaded("volume a;volume abcdef;volume z;snap a a;snap a zz;");
+        due("volume a", x.named(false, Pools.letters("a")), 0);
+        due("volume abcdef", x.named(false, Pools.letters("abcdef")), 1);
         due("volume z", x.named(false, 26 << 25), 2);
         due("snapshot a", x.named(true, 1 << 25), 0);
-        due("snapshot zz", x.named(true, letters("zz")), 1);
-        due("snapshot z", x.named(true, letters("z")), NONE);
-        due("volume abcde", x.named(false, letters("abcde")), NONE);
+        due("snapshot zz", x.named(true, Pools.letters("zz")), 1);
+        due("snapshot z", x.named(true, Pools.letters("z")), NONE);
+        due("volume abcde", x.named(false, Pools.letters("abcde")), NONE);
         due("a gap in the name", x.named(false, 1 << 25 | 1 << 15), NONE);
         due("a with a high bit", x.named(false, 1 << 25 | 1 << 30), NONE);
         due("a with the highest bit", x.named(false, 1 << 25 | 1 << 31), NONE);
@@ -380,9 +336,9 @@ public final class PromiseTest {
         due("no name", x.named(false, 0), NONE);
         due("no name", x.named(true, 0), NONE);
         x.destroy(1);
-        due("a name that is gone", x.named(true, letters("zz")), NONE);
+        due("a name that is gone", x.named(true, Pools.letters("zz")), NONE);
         x.undo();
-        due("and is back", x.named(true, letters("zz")), 1);
+        due("and is back", x.named(true, Pools.letters("zz")), 1);
 
         promise = 7;
         x = new SnapshotVolumes();
@@ -679,7 +635,7 @@ public final class PromiseTest {
         due("writtenSince(0, 1)", x.writtenSince(0, 1), 0);
         due("writtenSince(1, 0)", x.writtenSince(1, 0), 6);
         due("writtenSince(1, 1)", x.writtenSince(1, 1), 6);
-        SnapshotVolumes later = loaded("volume a;volume b;snap b s;write a 0 3;snap a t;write a 1 4;");
+        SnapshotVolumes later = Pools.loaded("volume a;volume b;snap b s;write a 0 3;snap a t;write a 1 4;");
         due("writtenSince(0, 0), in t, too", later.writtenSince(0, 0), 7);
         due("writtenSince(0, 1)", later.writtenSince(0, 1), 4);
         noVolume("writtenSince", x, v -> x10.writtenSince(v, 0));
@@ -688,7 +644,7 @@ public final class PromiseTest {
         promise = 42;
         due("sharing", x.sharing(), 33.0 / 18.0);
         due("sharing of none", new SnapshotVolumes().sharing(), 0);
-        due("sharing of one", loaded("volume a;write a 0 7;").sharing(), 1);
+        due("sharing of one", Pools.loaded("volume a;write a 0 7;").sharing(), 1);
     }
 
     private static void deadBlocks() {
@@ -712,7 +668,7 @@ public final class PromiseTest {
         due("deadBlock(1, 0)", x.deadBlock(1, 0), 1);
         due("deadBlock(16, 0)", x.deadBlock(16, 0), 2);
         noVersion("deadBlock", x, w -> x10.deadBlock(w, 0));
-        x = loaded("volume a;write a 5 1;write a 3 1;write a 4 1;snap a s;trim a 3;trim a 4;trim a 5;");
+        x = Pools.loaded("volume a;write a 5 1;write a 3 1;write a 4 1;snap a s;trim a 3;trim a 4;trim a 5;");
         due("by births: 0", x.deadBlock(16, 0), 1);
         due("by births: 1", x.deadBlock(16, 1), 2);
         due("by births: 2", x.deadBlock(16, 2), 3);
@@ -733,7 +689,7 @@ public final class PromiseTest {
 
     private static void freeing() {
         promise = 34;
-        SnapshotVolumes x = loaded("volume a;write a 0 5;write a 1 2;snap a s;write a 0 4;snap a t;trim a 0;trim a 1;hold s;");
+        SnapshotVolumes x = Pools.loaded("volume a;write a 0 5;write a 1 2;snap a s;write a 0 4;snap a t;trim a 0;trim a 1;hold s;");
         due("freedBy(0)", x.freedBy(0), 0);
         due("freedBy(1)", x.freedBy(1), 5);
         due("freedBy(2)", x.freedBy(2), 4);
@@ -770,13 +726,13 @@ public final class PromiseTest {
 
         promise = 39;
         due("mostExclusive of none", new SnapshotVolumes().mostExclusive(), NONE);
-        due("mostExclusive, none alone", loaded("volume a;write a 0 4;snap a s;").mostExclusive(), NONE);
+        due("mostExclusive, none alone", Pools.loaded("volume a;write a 0 4;snap a s;").mostExclusive(), NONE);
         String row = "volume a;write a 0 3;snap a s;write a 0 4;snap a t;write a 0 ";
-        due("mostExclusive", loaded(row + "4;snap a u;trim a 0;").mostExclusive(), 1);
-        due("mostExclusive", loaded(row + "5;snap a u;trim a 0;").mostExclusive(), 2);
-        due("mostExclusive, one unit", loaded("volume a;write a 0 1;snap a s;trim a 0;").mostExclusive(), 0);
-        due("mostExclusive of none", loaded("volume a;write a 0 9;").mostExclusive(), NONE);
-        due("mostExclusive, held", loaded(row + "4;hold t;").mostExclusive(), 1);
+        due("mostExclusive", Pools.loaded(row + "4;snap a u;trim a 0;").mostExclusive(), 1);
+        due("mostExclusive", Pools.loaded(row + "5;snap a u;trim a 0;").mostExclusive(), 2);
+        due("mostExclusive, one unit", Pools.loaded("volume a;write a 0 1;snap a s;trim a 0;").mostExclusive(), 0);
+        due("mostExclusive of none", Pools.loaded("volume a;write a 0 9;").mostExclusive(), NONE);
+        due("mostExclusive, held", Pools.loaded(row + "4;hold t;").mostExclusive(), 1);
     }
 
     private static void fewest() {
@@ -788,7 +744,7 @@ public final class PromiseTest {
         due("fewestToFree(1) of none", new SnapshotVolumes().fewestToFree(1), NONE);
         // Block 1 (9 units) is had by s and t alone; s, t and u have 1, 2 and 3 units by themselves.
         String text = "volume a;write a 0 9;write a 1 1;snap a s;write a 1 2;snap a t;trim a 0;write a 1 3;snap a u;trim a 1;";
-        SnapshotVolumes x = loaded(text);
+        SnapshotVolumes x = Pools.loaded(text);
         due("fewestToFree(1)", x.fewestToFree(1), 4);
         due("fewestToFree(3)", x.fewestToFree(3), 4);
         due("fewestToFree(4)", x.fewestToFree(4), 3);
@@ -803,10 +759,10 @@ public final class PromiseTest {
         x.clone(2);
         due("fewestToFree(1), u an origin", x.fewestToFree(1), 2);
         due("undoCount", x.undoCount(), 1);
-        x = loaded("volume a;write a 0 4;snap a s;write a 0 4;snap a t;write a 0 4;snap a u;trim a 0;");
+        x = Pools.loaded("volume a;write a 0 4;snap a s;write a 0 4;snap a t;write a 0 4;snap a u;trim a 0;");
         due("the lowest of one", x.fewestToFree(4), 1);
         due("the lowest of two", x.fewestToFree(5), 3);
-        x = loaded("volume a;volume b;write a 0 4;write b 0 4;snap a s;snap b t;write a 0 4;write b 0 4;snap a u;snap b v;"
+        x = Pools.loaded("volume a;volume b;write a 0 4;write b 0 4;snap a s;snap b t;write a 0 4;write b 0 4;snap a u;snap b v;"
             + "trim a 0;trim b 0;");
         due("the lowest over two volumes", x.fewestToFree(7), 3);
         due("the lowest over two volumes", x.fewestToFree(9), 7);
@@ -946,7 +902,7 @@ public final class PromiseTest {
         promise = 40;
         // s, t, u are snapshots of a; c is a clone of t, with a snapshot w; d is a clone of w.
         String text = "volume a;write a 0 1;snap a s;write a 1 2;snap a t;write a 2 3;snap a u;clone t c;write c 3 4;snap c w;clone w d;";
-        SnapshotVolumes x = loaded(text);
+        SnapshotVolumes x = Pools.loaded(text);
         due("wouldMove(0)", x.wouldMove(0), 0);
         due("wouldMove(1)", x.wouldMove(1), 2);
         due("wouldMove(2)", x.wouldMove(2), 1);
@@ -996,7 +952,7 @@ public final class PromiseTest {
     private static void destroying() {
         promise = 49;
         String text = "volume a;write a 0 5;write a 1 2;snap a s;write a 0 4;snap a t;trim a 0;trim a 1;";
-        SnapshotVolumes x = loaded(text);
+        SnapshotVolumes x = Pools.loaded(text);
         due("destroy(0)", x.destroy(0), 5);
         due("isThere(0)", x.isThere(0), false);
         due("before(1)", x.before(1), NONE);
@@ -1013,7 +969,7 @@ public final class PromiseTest {
         due("undoCount", x.undoCount(), 0);
 
         promise = 50;
-        x = loaded(text);
+        x = Pools.loaded(text);
         due("destroySet(0)", x.destroySet(0), BAD);
         due("destroySet(4)", x.destroySet(4), NONE);
         due("destroySet(7)", x.destroySet(7), NONE);
@@ -1041,7 +997,7 @@ public final class PromiseTest {
         x.hold(1, false);
         due("destroyVolume(0)", x.destroyVolume(0), 12);
         due("versions", x.isThere(0) || x.isThere(1) || x.isThere(16) || x.isThere(17), false);
-        due("name", x.named(true, letters("s")), NONE);
+        due("name", x.named(true, Pools.letters("s")), NONE);
         for (int bad : NO_INDEX) {
             due("destroyVolume(" + bad + ")", x.destroyVolume(bad), NONE);
         }
@@ -1056,7 +1012,7 @@ public final class PromiseTest {
         promise = 52;
         // s has 1; t has 2 (and 1); u has 4; then 6 is written and 1 is trimmed.
         String text = "volume a;write a 0 1;snap a s;write a 1 2;snap a t;write a 1 4;snap a u;write a 1 5;trim a 0;";
-        SnapshotVolumes x = loaded(text);
+        SnapshotVolumes x = Pools.loaded(text);
         due("rollBack(2)", x.rollBack(2), 5);
         due("unlike(2, 16)", x.unlike(2, 16), 0);
         due("rollBack(2) again", x.rollBack(2), 0);
@@ -1074,15 +1030,15 @@ public final class PromiseTest {
             due("rollBack(" + bad + ")", x.rollBack(bad), NONE);
         }
         due("rollBack of a live state", x.rollBack(16), NONE);
-        x = loaded(text);
+        x = Pools.loaded(text);
         x.clone(2);
         due("rollBack(1), u an origin", x.rollBack(1), NOT);
         due("rollBack(2), itself an origin", x.rollBack(2), 5);
-        x = loaded("volume a;write a 0 1;snap a s;clone s b;write b 1 2;snap b t;write b 1 3;");
+        x = Pools.loaded("volume a;write a 0 1;snap a s;clone s b;write b 1 2;snap b t;write b 1 3;");
         due("rollBack of a clone", x.rollBack(1), 3);
         due("its live state", x.blockAt(17, 1) * 10 + x.blockAt(17, 0), 31);
         due("the other live state", x.blockAt(16, 0) * 10 + x.blockAt(16, 1), 10 + NONE);
-        x = loaded("volume a;write a 0 9;snap a s;trim a 0;");
+        x = Pools.loaded("volume a;write a 0 9;snap a s;trim a 0;");
         x.setSetting(SnapshotVolumes.POOL, 1);
         x.setQuota(0, 1);
         due("rollBack over the limits", x.rollBack(0), 0);
@@ -1180,7 +1136,7 @@ public final class PromiseTest {
         due("the same birth for another size", x.write(1, 3, 2), 7);
         due("its size", x.sizeOf(7), 2);
         x = family();
-        feedText(x, "volume q;");
+        Pools.feed(x, "volume q;");
         x.newVolume();
         x.undo();
         due("input stays", x.load(9), 1);
@@ -1190,12 +1146,12 @@ public final class PromiseTest {
         x.rollBack(0);
         x.destroyVolume(1);
         x.undo();
-        due("undo destroyVolume", x.named(false, letters("c")), 1);
+        due("undo destroyVolume", x.named(false, Pools.letters("c")), 1);
         x.undo();
         due("undo rollBack", x.blockAt(16, 0), 4);
         x.undo();
         due("undo destroySet", x.blockAt(1, 1), 2);
-        due("its name", x.named(true, letters("t")), 1);
+        due("its name", x.named(true, Pools.letters("t")), 1);
     }
 
     private static void output() {
@@ -1213,7 +1169,7 @@ public final class PromiseTest {
         x.take(0);
         dueOut(x, 2, "*: * - - - - - - - - - - - 10");
         dueOut(x, 0, "a: s t * 4 - - - - - - - - - - -");
-        x = loaded("volume abcdef;snap abcdef zzzzzz;");
+        x = Pools.loaded("volume abcdef;snap abcdef zzzzzz;");
         dueOut(x, 0, "abcdef: zzzzzz - - - - - - - - - - - -");
         noVolume("writeOut", x, v -> x10.writeOut(v));
 
