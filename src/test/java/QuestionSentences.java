@@ -98,7 +98,45 @@ final class QuestionSentences extends Sentences {
                 due("of all that can come", Pools.full().count(what), full[what]);
             });
         }
+        test(5, "2: blocks that are there", () -> {
+            SnapshotVolumes x = mostBlocks();
+            due("12 in each of 22 versions", x.count(2), 264);
+            due("used", x.used(), 264);
+            due("sharing", x.sharing(), 1);
+            for (int version = 0; version < 22; version++) {
+                due("exclusive(" + version + ")", x.exclusive(version), 12);
+                due("birthIn(" + version + ")", x.holders(x.birthIn(version, true)), 1 << version);
+            }
+            due("deadCount(16)", x.deadCount(16), 12);
+            due("sameAt(21, 11)", x.sameAt(21, 11), 1 << 21);
+            due("fewestToFree(192)", x.fewestToFree(192), 0xffff);
+            due("write in place of one", x.write(5, 11, 1), 281);
+            due("undo", x.undo(), 7);
+            due("trim", x.trim(5, 11), 1);
+            due("destroySet", x.destroySet(0xffff), 192);
+            due("blocks", x.count(2), 71);
+            due("undo", x.undo(), 7);
+            due("undo", x.undo(), 6);
+            due("blocks", x.count(2), 264);
+            due("rollBack", x.rollBack(0), 192);
+            due("sharing", x.sharing(), 84 / 72.0);
+        });
         test(5, "BAD_VALUE for any other what.", () -> answersFor(NOT_0_TO_5, BAD, (x, what) -> x.count(what)));
+    }
+
+    /** Each version has 12 blocks of its own, so that there can be no more. */
+    private static SnapshotVolumes mostBlocks() {
+        SnapshotVolumes x = Pools.loaded("set pool 999;volume a;volume b;volume c;volume d;volume e;volume f;");
+        for (int round = 0; round < 22; round++) {
+            int volume = Math.max(0, round - 16);
+            for (int address = 0; address < 12; address++) {
+                x.write(volume, address, 1);
+            }
+            if (round < 16) {
+                x.take(0);
+            }
+        }
+        return x;
     }
 
     private static void named() {
@@ -340,6 +378,7 @@ final class QuestionSentences extends Sentences {
             x = Pools.full();
             due("of the last ones", x.common(15, 16), 15);
             due("of two clones", x.common(20, 21), 0);
+            due("of the greatest version", x.common(21, 21), 21);
         });
         test(17, "NOT_FOUND if they have none in common.", () -> {
             SnapshotVolumes x = Pools.loaded("volume a;volume b;snap a s;snap b t;");
@@ -401,8 +440,13 @@ final class QuestionSentences extends Sentences {
             due("none has one", x.sameAt(0, 10), 7 | 1 << 16 | 1 << 17 | 1 << 18 | 1 << 20);
             x = Pools.loaded("volume a;write a 0 1;write a 1 1;snap a s;trim a 0;");
             due("alone without one", x.sameAt(16, 0), 1 << 16);
-            due("one object of the same size is another block", x.write(0, 0, 1), 4);
+            due("write of the same size", x.write(0, 0, 1), 4);
             due("alone with one", x.sameAt(16, 0), 1 << 16);
+            x = Pools.loaded("volume a;write a 0 1;write a 1 2;");
+            x.trim(0, 0);
+            x.take(0);
+            x.trim(0, 1);
+            due("alone without one, an older block is free", x.sameAt(16, 1), 1 << 16);
         });
         test(20, "Returns the versions as a bit set: bit w is 1 for the version w.", () -> {
             due("all, the same block", Pools.full().sameAt(21, 0), (1 << 22) - 1);
@@ -637,6 +681,10 @@ final class QuestionSentences extends Sentences {
             answersFor(join(outside(0, 0), 0), NONE, (x, k) -> x.deadBlock(2, k));
             due("without a version ahead", Pools.busy().deadBlock(18, 0), NONE);
             due("the first one", Pools.busy().deadBlock(1, 0), 1);
+            SnapshotVolumes x = Pools.loaded("volume a;write a 0 1;write a 1 1;snap a s;trim a 0;snap a t;trim a 1;");
+            x.destroy(0);
+            due("an older block is free: the first one", x.deadBlock(16, 0), 2);
+            due("an older block is free: no other one", x.deadBlock(16, 1), NONE);
         });
         test(32, NO_SUCH_VERSION, () -> {
             throwsFor(NO_VERSION, (x, version) -> x.deadBlock(version, 0));

@@ -16,10 +16,9 @@ abstract class Sentences {
     static final int MIN = Integer.MIN_VALUE;
     static final int MAX = Integer.MAX_VALUE;
 
-    /** What is none of these in Pools.busy: outside the range, gone, or never come. */
-    static final int[] NO_VOLUME = join(outside(0, 5), 3, 5);
-    static final int[] NO_SNAPSHOT = join(outside(0, 15), 3, 4, 5, 6, 7, 8, 9, 10, 11, 12, 13, 14, 15);
-    static final int[] NO_VERSION = join(outside(0, 21), 3, 4, 5, 6, 7, 8, 9, 10, 11, 12, 13, 14, 15, 19, 21);
+    static final Absent NO_VOLUME = new Absent(outside(0, 5), 3, 5);
+    static final Absent NO_SNAPSHOT = new Absent(outside(0, 15), 3, 4, 5, 6, 7, 8, 9, 10, 11, 12, 13, 14, 15);
+    static final Absent NO_VERSION = new Absent(outside(0, 21), 3, 4, 5, 6, 7, 8, 9, 10, 11, 12, 13, 14, 15, 19, 21);
     static final int[] NO_ADDRESS = outside(0, 11);
 
     static final List<Told> TOLD = new ArrayList<>();
@@ -28,6 +27,10 @@ abstract class Sentences {
     private static Told now = new Told(0, "");
 
     record Told(int promise, String words) {
+    }
+
+    /** Numbers of no such thing: never in any pool, and (gone or not come yet) not in Pools.busy. */
+    record Absent(int[] anywhere, int... inBusy) {
     }
 
     /** Asks a pool with one number. */
@@ -92,7 +95,16 @@ abstract class Sentences {
 
     /** The call answers this for each of the numbers, on one pool of Pools.busy. */
     static void answersFor(int[] numbers, int want, Asked asked) {
-        SnapshotVolumes x = Pools.busy();
+        answersFor(Pools.busy(), numbers, want, asked);
+    }
+
+    // In Pools.full, what wraps around from a volume to a snapshot comes upon one that is there.
+    static void answersFor(Absent absent, int want, Asked asked) {
+        answersFor(Pools.busy(), join(absent.anywhere(), absent.inBusy()), want, asked);
+        answersFor(Pools.full(), absent.anywhere(), want, asked);
+    }
+
+    private static void answersFor(SnapshotVolumes x, int[] numbers, int want, Asked asked) {
         for (int number : numbers) {
             due("the call with " + number, asked.of(x, number), want);
         }
@@ -100,7 +112,15 @@ abstract class Sentences {
 
     /** The call throws for each of the numbers, on one pool of Pools.busy. */
     static void throwsFor(int[] numbers, Asked asked) {
-        SnapshotVolumes x = Pools.busy();
+        throwsFor(Pools.busy(), numbers, asked);
+    }
+
+    static void throwsFor(Absent absent, Asked asked) {
+        throwsFor(Pools.busy(), join(absent.anywhere(), absent.inBusy()), asked);
+        throwsFor(Pools.full(), absent.anywhere(), asked);
+    }
+
+    private static void throwsFor(SnapshotVolumes x, int[] numbers, Asked asked) {
         for (int number : numbers) {
             thrown("the call with " + number, () -> asked.of(x, number));
         }

@@ -148,8 +148,18 @@ final class TextSentences extends Sentences {
             return new String[] {"b", ";", "_", "-1", "volume"};
         }
         boolean key = place == 0 || token.equals("pool") || token.equals("clones");
-        return key ? new String[] {"7", ";", "_", "b", "volumes", "volum", "snaq", "VOLUME"}
-            : new String[] {"7", ";", "_", "abcdefg", "A"};
+        return key ? wrongForKey(token) : new String[] {"7", ";", "_", "abcdefg", "A"};
+    }
+
+    /** Other tokens, and words that are a letter longer, a letter shorter, or different in one letter. */
+    private static String[] wrongForKey(String key) {
+        int length = key.length();
+        String[] wrong = {"7", ";", "_", "b", key.toUpperCase(), key + "a", "a" + key, key.substring(1), key.substring(0, length - 1)};
+        String[] all = Arrays.copyOf(wrong, wrong.length + length);
+        for (int i = 0; i < length; i++) {
+            all[wrong.length + i] = key.substring(0, i) + "x" + key.substring(i + 1);
+        }
+        return all;
     }
 
     private static void forms() {
@@ -486,6 +496,17 @@ final class TextSentences extends Sentences {
             due("CLONES", x.getSetting(CLONES), 3);
             due("quota", x.volumeNumber(0, 2), 0);
             due("time", x.count(3), 2);
+        });
+        test(3, "The text begins with an empty pool, initial settings and the time 0.", () -> {
+            SnapshotVolumes x = Pools.loaded("set clones 4;set pool 5;volume a;snap a s;snap a t;hold t;");
+            due("what was told in another text", Pools.load(x, "set pool 6;set clones 2;volume a;snap a s;snap a t;hold s;"), 6);
+            due("s is held", x.snapshotNumber(0, 2), 1);
+            due("t is held no more", x.snapshotNumber(1, 2), 0);
+            due("what was told in a text with an error", Pools.load(x, "set pool 7;volume a;snap a s;hold s;_"), SYNTAX);
+            due("load", Pools.load(x, "set pool 8;volume a;snap a s;hold s;"), 4);
+            due("POOL", x.getSetting(POOL), 8);
+            due("CLONES", x.getSetting(CLONES), 3);
+            due("hold", x.hold(0, false), 0);
         });
         test(3, "After a successful load nothing can be undone; what was written to the output buffer stays.", () -> {
             SnapshotVolumes x = Pools.busy();

@@ -202,6 +202,29 @@ final class VersionSentences extends Sentences {
             due("blocks", x.count(2), 0);
             due("used", x.used(), 0);
         });
+        test(0, "then it is free.", () -> {
+            SnapshotVolumes x = Pools.loaded("volume a;write a 0 1;write a 1 2;write a 2 3;write a 3 4;");
+            due("the oldest one goes", x.trim(0, 0), 1);
+            due("blocks", x.count(2), 3);
+            due("used", x.used(), 9);
+            due("referenced", x.referenced(16), 9);
+            due("sharing", x.sharing(), 1);
+            due("oldest", x.birthIn(16, false), 2);
+            due("newest", x.birthIn(16, true), 4);
+            due("the newest one goes", x.trim(0, 3), 4);
+            due("sameAt(16, 3)", x.sameAt(16, 3), 1 << 16);
+            due("newest", x.birthIn(16, true), 3);
+            due("take", x.take(0), 0);
+            due("trim", x.trim(0, 1), 0);
+            due("deadCount", x.deadCount(16), 1);
+            due("deadBlock(16, 1)", x.deadBlock(16, 1), NONE);
+            due("sharing", x.sharing(), 8 / 5.0);
+            due("rollBack", x.rollBack(0), 0);
+            due("holders", x.holders(2), 1 | 1 << 16);
+            due("holders of a free one", x.holders(4), 0);
+            due("used", x.used(), 5);
+            due("destroyVolume", x.destroyVolume(0), 5);
+        });
         test(0, "The first snapshots of a volume come behind its origin, if it has one: a volume that is made as a clone "
             + "of a snapshot has this as its origin, and begins with its blocks.", () -> {
             SnapshotVolumes x = Pools.loaded("volume a;snap a e;write a 0 7;write a 11 2;snap a s;trim a 0;");
